@@ -229,7 +229,7 @@ public final class HutRings {
         }
 
         int at(int place) {
-            return has(place) ? cells[place] : NONE;
+            return place >= 0 && place < size && place < cells.length ? cells[place] : NONE;
         }
 
         void put(int place, int number) {

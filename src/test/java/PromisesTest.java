@@ -175,6 +175,9 @@ public final class PromisesTest {
         Check.due("drop the only one", 1, () -> land.drop(0, 0));
         dueList("drop the only one", land, 0);
         dueList("drop: other keeper", land, 1, 0);
+        HutRings last = Lands.of(Lands.list(), Lands.list(0));
+        Check.due("drop from the last keeper", 0, () -> last.drop(1, 0));
+        dueList("drop from the last keeper", last, 1);
         HutRings middle = Lands.of(Lands.list(3, 1, 2), Lands.list(), Lands.list(), Lands.list());
         Check.due("drop in between", 1, () -> middle.drop(0, 1));
         dueList("drop in between", middle, 0, 3, 2);
