@@ -7,8 +7,22 @@ final class Check {
 
     private static int wrong = 0;
     private static int made = 0;
+    private static int sentences = 0;
+    private static String about = "";
 
     private Check() {
+    }
+
+    /** Runs the test of one sentence of the document: whatever goes wrong in it is printed with that sentence. */
+    static void sentence(String promise, String text, Runnable test) {
+        sentences++;
+        about = promise + ": \"" + text + "\": ";
+        try {
+            test.run();
+        } catch (RuntimeException e) {
+            same("a call of the test itself", "an answer", "throws " + e);
+        }
+        about = "";
     }
 
     /** What a call did: "= 5" or "throws IllegalStateException". */
@@ -33,12 +47,13 @@ final class Check {
         made++;
         if (!want.equals(got)) {
             wrong++;
-            System.out.println(what + ": got " + got + ", due is " + want);
+            System.out.println(about + what + ": got " + got + ", due is " + want);
         }
     }
 
     static void end(String test) {
-        System.out.println(test + ": " + made + " checks, " + wrong + " wrong");
+        String of = sentences == 0 ? "" : " of " + sentences + " sentences";
+        System.out.println(test + ": " + made + " checks" + of + ", " + wrong + " wrong");
         if (wrong != 0) {
             System.exit(1);
         }

@@ -26,11 +26,42 @@ final class Lands {
         return of(list(1), list(2, 0), list(0), list(0, 4), list(1, 3), list(3, 0));
     }
 
+    /** Ten keepers, each of whom likes all that come ahead: one alone is done in each of ten rounds. */
+    static HutRings longest() {
+        HutRings land = empty(10);
+        for (int keeper = 0; keeper < 10; keeper++) {
+            for (int hut = 0; hut < keeper; hut++) {
+                land.wish(keeper, hut, hut);
+            }
+        }
+        return land;
+    }
+
+    /** Ten keepers in one ring: each likes the next one's hut, the last one that of the first. */
+    static HutRings ringOfTen() {
+        HutRings land = empty(10);
+        for (int keeper = 0; keeper < 10; keeper++) {
+            land.wish(keeper, 0, (keeper + 1) % 10);
+        }
+        return land;
+    }
+
+    /** Ten keepers; each likes all huts of the others, that of the next one best, and so on round. */
+    static HutRings full() {
+        HutRings land = empty(10);
+        for (int keeper = 0; keeper < 10; keeper++) {
+            for (int place = 0; place < 9; place++) {
+                land.wish(keeper, place, (keeper + 1 + place) % 10);
+            }
+        }
+        return land;
+    }
+
     static HutRings empty(int keepers) {
         return of(new int[keepers][0]);
     }
 
-    /** Everything that the land answers, as one text. */
+    /** What the land answers to calls that change nothing, as one text. */
     static String all(HutRings land) {
         StringBuilder text = new StringBuilder();
         int keepers = land.count(0);
@@ -57,5 +88,9 @@ final class Lands {
         for (int hut = 0; hut < keepers; hut++) {
             text.append(land.rank(keeper, hut)).append(' ');
         }
+        // Of what would be only a part, since each answer of it costs rounds of its own.
+        int other = (keeper + 1) % keepers;
+        text.append(other == keeper ? -1 : land.without(keeper, other)).append(' ');
+        text.append(land.feign(keeper, other)).append(' ');
     }
 }
